@@ -200,6 +200,10 @@ public final class ActsShelvesTest {
                 Due.due("a " + kind + " taken for a " + k, x.taken(0, k), want);
             }
         }
+        x.row(0, 3, 1);
+        Due.due("a row where a smith was", x.taken(0, 0), -12);
+        x.keep(0, -1);
+        Due.due("nothing where a row was", x.taken(0, 0), -11);
     }
 
     private static void counting() {

@@ -69,10 +69,14 @@ public final class DeedsTest {
         x.mend(0, 3, 0);
         Due.due("SHAPE 0 has none less", x.stroke(0, 2), 0);
         ideaIs(x, 0, 0, 5, 0);
+        x.mend(0, 3, 1);
+        Due.due("SHAPE 1 has one less", x.stroke(0, 2), 1);
+        ideaIs(x, 0, 0, 3, 0);
+        x.mend(0, 5, 5);
         Due.due("one more", x.stroke(0, 1), 1);
         Due.due("one more", x.stroke(0, 1), 1);
         ideaIs(x, 2, 0, 1, 0);
-        ledIs(x, 4, 4, 0, 0, 0);
+        ledIs(x, 5, 4, 0, 0, 0);
     }
 
     private static void nailing() {
@@ -265,8 +269,10 @@ public final class DeedsTest {
         for (int i = 39; i >= 0; i--) Due.due("undo", x.undo(), i);
         Due.due("no more are kept", x.undo(), -5);
         Due.due("as far as they are kept", x.of(0, 4), 5);
-        for (int i = 39; i >= 0; i--) Due.due("redo", x.redo(), i);
-        Due.due("all done again", x.of(0, 4), 45);
+        for (int i = 39; i >= 0; i--) {
+            Due.due("redo", x.redo(), i);
+            Due.due("done again", x.of(0, 4), 45 - i);
+        }
         Due.due("redo: none", x.redo(), -5);
         int[][] every = {{0, 5}, {1, 12}, {2, 3}, {3, 5}, {4, 99}, {5, 9}, {6, 1}, {7, 9}, {8, 0}, {9, 9}, {10, 9}, {11, 2}};
         x = new ColdShod();
@@ -279,6 +285,22 @@ public final class DeedsTest {
         for (int what = 0; what < 12; what++) Due.due("undone " + what, x.of(0, what), first[what]);
         for (int i = 0; i < 12; i++) x.redo();
         for (int[] one : every) Due.due("done again " + one[0], x.of(0, one[0]), one[1]);
+        fortyOfManyIdeas();
+    }
+
+    private static void fortyOfManyIdeas() {
+        ColdShod x = new ColdShod();
+        for (int i = 0; i < 8; i++) x.idea(0, 0);
+        for (int i = 0; i < 43; i++) x.mend(i % 8, i % 2 == 0 ? 4 : 7, 1 + i / 8);
+        for (int i = 42; i >= 3; i--) {
+            x.undo();
+            Due.due("undone of idea " + i % 8, x.of(i % 8, i % 2 == 0 ? 4 : 7), i / 8);
+        }
+        Due.due("no more are kept", x.undo(), -5);
+        for (int i = 3; i < 43; i++) {
+            x.redo();
+            Due.due("done again of idea " + i % 8, x.of(i % 8, i % 2 == 0 ? 4 : 7), 1 + i / 8);
+        }
     }
 
     private static void deedsAreNoChanges() {

@@ -79,6 +79,15 @@ public final class EdgeTest {
         for (int i = 0; i < 60; i++) x.put(5, i, i);
         Due.due("a journey has twenty roads at most", x.judge(5, 0), 21);
         Due.due("one row for both", x.judge(0, 0), 1);
+        Due.bytes(x, 4, 0, 0);
+        Due.bytes(x, 5, 0, 1, 2, 4);
+        Due.due("SHELVES 4 and 5", x.judge(45, 0), 3);
+        Due.due("SHELVES 5 and 4", x.judge(54, 0), 1);
+        Due.due("SHELVES 5 and 5", x.judge(55, 0), 2);
+        Due.due("SHELVES 4 and 5", x.edge(45, 0, 0), 0);
+        x.put(5, 3, 2);
+        x.shift(5, 0, 4, 0, 2);
+        Due.due("SHELVES 5 and 4", x.edge(54, 0, 0), 15);
     }
 
     private static void edges() {
@@ -128,6 +137,8 @@ public final class EdgeTest {
         turnsAre(x, 3, 47, 0);
         x.mend(0, 5, 2);
         turnsAre(x, 3, 40, 3);
+        x.mend(0, 5, 3);
+        turnsAre(x, 3, 37, 3);
         x.mend(0, 5, 0);
         x.mend(0, 6, 1);
         x.mend(0, 7, 1);
@@ -137,6 +148,12 @@ public final class EdgeTest {
         x.mend(0, 5, 9);
         turnsAre(x, 1, 89, 3);
         turnsAre(x, 2, 96, 3);
+        turnsAre(x, 5, 83, 3);
+        x.mend(0, 5, 0);
+        turnsAre(x, 1, 99, 4);
+        // a kick is lost at WORN 99, so heating may wait; one NAIL is all that cooling leaves
+        turnsAre(x, 5, 89, 4);
+        x.mend(0, 5, 9);
         x.mend(0, 4, 0);
         turnsAre(x, 1, 0, 4);
         turnsAre(x, 2, 7, 4);

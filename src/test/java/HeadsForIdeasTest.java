@@ -99,5 +99,9 @@ public final class HeadsForIdeasTest {
         yokesAre(x, 1, 1, 1);
         x.mend(7, 3, 0);
         yokesAre(x, 2, 2, 129);
+        for (int shape = 0; shape < 6; shape++) {
+            for (int i = 0; i < 8; i++) x.mend(i, 3, shape);
+            yokesAre(x, 1, 1, 1);
+        }
     }
 }

@@ -117,6 +117,19 @@ public final class HeadsIdeasRoadsTest {
         Due.due("until FULL", x.roads(2, 0, 12), 7);
         Due.due("FULL already", x.roads(2, 0, 12), 0);
         Due.due("no change of mend()", x.count(4), 0);
+        rowsFilledToTheEnd();
+    }
+
+    private static void rowsFilledToTheEnd() {
+        ColdShod x = new ColdShod();
+        x.row(0, 0, 60);
+        for (int i = 0; i < 60; i++) x.put(0, i, i % 3 == 2 ? 9 : i % 3);
+        Due.due("the last three", x.roads(0, 57, 12), 1);
+        Due.due("9 MILES", x.of(0, 9), 9);
+        Due.due("two are no three", x.roads(0, 58, 12), 0);
+        Due.due("one is no three", x.roads(0, 59, 12), 0);
+        Due.due("none is no three", x.roads(0, 60, 12), 0);
+        Due.due("no more than n", x.roads(0, 0, 5), 5);
     }
 
     private static ColdShod oneOfEach() {

@@ -224,6 +224,10 @@ public final class JourneysTest {
         for (int place = 2; place < 7; place++) x.road(10 * place + place + 1, 1);
         wayIs(x, 17, 9, 2, 3, 4, 5, 6, 7);
         wayIs(x, 71, 9, 7, 6, 5, 4, 3, 2);
+        x.mend(1, 9, 9);
+        x.mend(0, 9, 1);
+        x.mend(2, 9, 1);
+        wayIs(x, 7, 7, 0, 2, 3, 4, 5, 6, 7);
         Due.due("in thought alone", x.of(0, 4), 0);
     }
 

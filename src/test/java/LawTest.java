@@ -15,6 +15,8 @@ public final class LawTest {
         Due.due("feed(-1)", x.feed(-1), -1);
         Due.due("feed(256)", x.feed(256), -1);
         Due.due("nothing came", x.count(3), 0);
+        Due.due("feed(0)", x.feed(0), 1);
+        Due.due("no text begins so", x.law(), -100);
         for (int i = 1; i <= 120; i++) Due.due("feed", x.feed(i == 120 ? 255 : i % 2 == 1 ? '1' : '+'), i);
         Due.due("feed when full", x.feed('1'), -3);
         Due.due("BAD ahead of FULL", x.feed(256), -1);
@@ -95,6 +97,8 @@ public final class LawTest {
         fault("(1))", 3);
         fault("-", 1);
         fault("1?-", 3);
+        fault("1?((((((1))))))", ok);
+        fault("1?!!!!!!1;!!!!!!1?1", ok);
     }
 
     private static void faultKeepsLaw() {
@@ -160,6 +164,9 @@ public final class LawTest {
         gives("0|0", 0);
         gives("2&4", 1);
         gives("2&0", 0);
+        gives("1&1", 1);
+        gives("1|1", 1);
+        gives("0&1", 0);
         gives("0&0|1", 1);
         gives("1|0&0", 1);
         gives("1+1=2", 1);
