@@ -949,7 +949,7 @@ public final class ColdShod {
     /** THE LAW made ready: its LINES one behind the other, signs behind what they join. */
     private static final class LawCode {
         static final int NAMES = 6, M = 0, W = 1, H = 2, F = 3, S = 4, K = 5;
-        /** Signs that the text does not have, or not for this. */
+        /** What no joining sign of the text is. */
         static final int NUMBER = '0', NAME = 'm', NEGATED = '~';
         /** A byte of the text gives two cells at most, and its end one more. */
         private static final int MOST_CELLS = 2 * LawText.MOST_LETTERS + 2;
@@ -1005,7 +1005,10 @@ public final class ColdShod {
                     case NEGATED: push(-pop()); break;
                     case '?': at = pop() == 0 ? Math.max(at, operand) : at + 1; break;
                     case ';': return pop();
-                    default: int right = pop(); push(joined(pop(), sign, right)); break;
+                    default:
+                        int right = pop();
+                        push(joined(pop(), sign, right));
+                        break;
                 }
             }
             return 0;
@@ -1040,7 +1043,7 @@ public final class ColdShod {
         }
     }
 
-    /** THE TAPE, and how a law is read from it: each read... stops at the byte with which nothing goes on. */
+    /** THE TAPE, and how THE LAW is read from it: what cannot be read on stops at the byte that is its FAULT. */
     private static final class LawText {
         static final int MOST_LETTERS = 120, NO_FAULT = -1;
         private static final int MOST_OPEN = 6, MOST_DIGITS = 4;
