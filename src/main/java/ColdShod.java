@@ -960,7 +960,6 @@ public final class ColdShod {
         private final int[] cells = new int[MOST_CELLS];
         private int length;
         private final int[] values = new int[MOST_WAITING];
-        private int top;
 
         void clear() {
             length = 0;
@@ -990,28 +989,40 @@ public final class ColdShod {
             if (skip >= 0 && skip < MOST_CELLS) cells[skip] = length;
         }
 
+        /** The law as it was read never lacks or overfills values; that is looked at all the same. */
         int worth(int[] names) {
             if (length == 0) return 1 + names[K] + names[F] / 3 - names[M] / 2;
-            top = 0;
-            int at = 0;
+            int waiting = 0, at = 0;
             for (int steps = 0; steps < MOST_CELLS && at < length; steps++) {
                 int sign = cells[at];
                 int operand = at + 1 < length ? cells[at + 1] : 0;
                 at++;
+                if (sign == NUMBER || sign == NAME) {
+                    if (waiting >= MOST_WAITING || sign == NAME && !isName(operand)) return 0;
+                    values[waiting] = sign == NUMBER ? operand : names[operand];
+                    waiting++;
+                    at++;
+                    continue;
+                }
+                if (waiting < 1) return 0;
+                int last = values[waiting - 1];
                 switch (sign) {
-                    case NUMBER: push(operand); at++; break;
-                    case NAME: push(operand >= 0 && operand < names.length ? names[operand] : 0); at++; break;
-                    case '!': push(pop() == 0 ? 1 : 0); break;
-                    case NEGATED: push(-pop()); break;
-                    case '?': at = pop() == 0 ? Math.max(at, operand) : at + 1; break;
-                    case ';': return pop();
+                    case '!': values[waiting - 1] = last == 0 ? 1 : 0; break;
+                    case NEGATED: values[waiting - 1] = -last; break;
+                    case '?': waiting--; at = last == 0 ? Math.max(at, operand) : at + 1; break;
+                    case ';': return last;
                     default:
-                        int right = pop();
-                        push(joined(pop(), sign, right));
+                        if (waiting < 2) return 0;
+                        waiting--;
+                        values[waiting - 1] = joined(values[waiting - 1], sign, last);
                         break;
                 }
             }
             return 0;
+        }
+
+        private static boolean isName(int name) {
+            return name >= 0 && name < NAMES;
         }
 
         private static int joined(int a, int sign, int b) {
@@ -1028,18 +1039,6 @@ public final class ColdShod {
                 case '%': return b == 0 ? 0 : a % b;
                 default: return 0;
             }
-        }
-
-        private void push(int value) {
-            if (top >= MOST_WAITING) return;
-            values[top] = value;
-            top++;
-        }
-
-        private int pop() {
-            if (top <= 0) return 0;
-            top--;
-            return values[top];
         }
     }
 
