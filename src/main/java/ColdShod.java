@@ -77,10 +77,12 @@ public final class ColdShod {
     }
 
     public int roads(int shelf, int i, int n) {
-        if (!isShelf(shelf) || i < 0 || n < 1 || n > MOST_ROADS) return BAD;
+        if (!isShelf(shelf) || n < 1 || n > MOST_ROADS) return BAD;
         Shelf row = shelves[shelf];
         if (row.holds == Shelf.NOTHING) return 0;
         if (!row.isBytes()) return OTHER_KIND;
+        // a place ahead of the row is none of its own: there it ends, as behind its last element
+        if (i < 0) return 0;
         int came = 0;
         for (int at = i; came < n && at < row.length - 2; at += 3) {
             if (!layRoadFrom(row, at)) return came;

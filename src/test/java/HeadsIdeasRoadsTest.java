@@ -83,7 +83,6 @@ public final class HeadsIdeasRoadsTest {
         ColdShod x = new ColdShod();
         Due.due("roads(-1, 0, 1)", x.roads(-1, 0, 1), -1);
         Due.due("roads(6, 0, 1)", x.roads(6, 0, 1), -1);
-        Due.due("roads(0, -1, 1)", x.roads(0, -1, 1), -1);
         Due.due("roads(0, 0, 0)", x.roads(0, 0, 0), -1);
         Due.due("roads(0, 0, 13)", x.roads(0, 0, 13), -1);
         Due.due("a row that is missing", x.roads(0, 0, 1), 0);
@@ -118,6 +117,33 @@ public final class HeadsIdeasRoadsTest {
         Due.due("FULL already", x.roads(2, 0, 12), 0);
         Due.due("no change of mend()", x.count(4), 0);
         rowsFilledToTheEnd();
+        placesAheadOfRows();
+    }
+
+    private static void placesAheadOfRows() {
+        for (int i : new int[] {-1, -2, -3, -6, -60, Integer.MIN_VALUE, Integer.MIN_VALUE + 1}) {
+            ColdShod x = new ColdShod();
+            Due.due("ahead of a row that is missing", x.roads(0, i, 1), 0);
+            Due.due("no such SHELF", x.roads(6, i, 1), -1);
+            Due.due("no SHELF below 0", x.roads(-1, i, 1), -1);
+            Due.due("n below 1", x.roads(0, i, 0), -1);
+            Due.due("n above 12", x.roads(0, i, 13), -1);
+            for (int sort = 1; sort <= 4; sort++) {
+                x.row(1, sort, 60);
+                Due.due("ahead of a row of another sort", x.roads(1, i, 1), -12);
+            }
+            x.body(0);
+            x.keep(1, 0);
+            Due.due("a smith, whatever the place", x.roads(1, i, 1), -12);
+            x.keep(1, -1);
+            Due.due("a smith taken away", x.roads(1, i, 1), 0);
+            x.row(2, 0, 0);
+            Due.due("ahead of a row of none", x.roads(2, i, 12), 0);
+            Due.bytes(x, 3, 0, 1, 2, 3, 4, 5);
+            Due.due("ahead of a row of bytes", x.roads(3, i, 12), 0);
+            Due.due("nothing came", x.count(2), 0);
+            Due.due("from its first place on", x.roads(3, 0, 12), 2);
+        }
     }
 
     private static void rowsFilledToTheEnd() {

@@ -91,13 +91,13 @@ final class PlainModel {
     }
 
     int roads(int shelf, int i, int n) {
-        if (shelf < 0 || shelf > 5 || i < 0 || n < 1 || n > 12) return -1;
+        if (shelf < 0 || shelf > 5 || n < 1 || n > 12) return -1;
         if (shelves[shelf] == null) return 0;
         if (!(shelves[shelf] instanceof byte[])) return -12;
         byte[] row = (byte[]) shelves[shelf];
         for (int came = 0; came < n; came++) {
             long at = i + 3L * came;
-            if (at + 3 > row.length) return came;
+            if (at < 0 || at + 3 > row.length) return came;
             int a = row[(int) at], b = row[(int) at + 1], m = row[(int) at + 2];
             if (a < 0 || b < 0 || b > 9 || road(10 * a + b, m) < 0) return came;
         }
