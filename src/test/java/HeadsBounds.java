@@ -27,7 +27,8 @@ final class HeadsBounds {
     }
 
     private static void nearerShapes() {
-        Doc.says("a HEAD would rather have the IDEA whose SHAPE is nearer to its FORM (of like ones the less WORN, then the lesser number)");
+        Doc.says("a HEAD would rather have the IDEA whose SHAPE is nearer to its FORM"
+            + " (of like ones the less WORN, then the lesser number)");
         for (int form = 0; form <= 5; form++) {
             for (int one = 0; one <= 5; one++) {
                 for (int two = 0; two <= 5; two++) {
@@ -90,8 +91,10 @@ final class HeadsBounds {
         r.does("mend(1, 1, 0)").due("settled() 1").does("mend(1, 1, 1)").due("settled() 0");
         r.does("mend(0, 8, 1)").due("settled() 1").does("mend(0, 8, -1)").due("settled() 0");
         // an IDEA without any, while the HEAD has the one that it would rather have
-        r = Run.begin().does("head(2) idea(0, 2) idea(0, 3) mend(0, 8, 0)").due("settled() 1").does("mend(1, 3, 2)").due("settled() 1");
-        r.does("mend(0, 4, 1)").due("settled() 0").does("mend(1, 4, 1)").due("settled() 1").does("mend(1, 4, 2)").due("settled() 1");
+        r = Run.begin().does("head(2) idea(0, 2) idea(0, 3) mend(0, 8, 0)").due("settled() 1").does("mend(1, 3, 2)")
+            .due("settled() 1");
+        r.does("mend(0, 4, 1)").due("settled() 0").does("mend(1, 4, 1)").due("settled() 1").does("mend(1, 4, 2)")
+            .due("settled() 1");
         r.does("mend(0, 8, -1) mend(1, 8, 0)").due("settled() 0").does("mend(1, 4, 0)").due("settled() 1");
     }
 
@@ -110,7 +113,8 @@ final class HeadsBounds {
 
     private static void settledAnswers() {
         Doc.says("Whether HEADS as told are such (1, 0).");
-        Run.begin().does("head(0) head(5) idea(0, 0) idea(0, 5) mend(0, 8, 1) mend(1, 8, 0)").due("settled() 0  deal() 2  settled() 1")
+        Run.begin().does("head(0) head(5) idea(0, 0) idea(0, 5) mend(0, 8, 1) mend(1, 8, 0)")
+            .due("settled() 0  deal() 2  settled() 1")
             .due("of(0, 8) 0  of(1, 8) 1");
     }
 
@@ -134,7 +138,8 @@ final class HeadsBounds {
             .does("idea(0, 0)").due("yokes(0) 1  yokes(1) 1  yokes(2) 1");
         int[] most = {1, 1, 2, 2, 3, 3};
         Run r = Run.begin();
-        for (int shape = 0; shape < 6; shape++) r.does("idea(0, " + shape + ")").due("yokes(0)", most[shape]).due("yokes(1)", most[shape]);
+        for (int shape = 0; shape < 6; shape++) r.does("idea(0, " + shape + ")").due("yokes(0)", most[shape])
+            .due("yokes(1)", most[shape]);
         r.does("idea(0, 0) idea(0, 5)").due("yokes(0) 3  yokes(1) 3  yokes(2) 21");
     }
 
@@ -143,8 +148,10 @@ final class HeadsBounds {
         Run r = Run.begin();
         for (int d = 0; d < 8; d++) r.does("idea(0, 0)");
         r.due("yokes(0) 1  yokes(1) 1  yokes(2) 1").does("mend(7, 3, 5)").due("yokes(0) 2  yokes(1) 2  yokes(2) 129");
-        r.does("mend(6, 3, 2)").due("yokes(0) 3  yokes(1) 3  yokes(2) 193").does("mend(5, 3, 3)").due("yokes(0) 3  yokes(1) 3  yokes(2) 161");
-        r.does("mend(4, 3, 4)").due("yokes(0) 3  yokes(1) 3  yokes(2) 81").does("mend(0, 3, 1)").due("yokes(0) 3  yokes(1) 3  yokes(2) 82");
+        r.does("mend(6, 3, 2)").due("yokes(0) 3  yokes(1) 3  yokes(2) 193").does("mend(5, 3, 3)")
+            .due("yokes(0) 3  yokes(1) 3  yokes(2) 161");
+        r.does("mend(4, 3, 4)").due("yokes(0) 3  yokes(1) 3  yokes(2) 81").does("mend(0, 3, 1)")
+            .due("yokes(0) 3  yokes(1) 3  yokes(2) 82");
     }
 
     private static void yokesRefused() {
@@ -155,7 +162,8 @@ final class HeadsBounds {
 
     /** SHELF 0: a JOURNEY by ROADS of a mile; SHELF 1: WORN behind them, as it is due. */
     private static Run told(int roads, int worn, int length) {
-        Run r = Run.begin().does("idea(0, 0) road(1, 1) row(0, 0, " + roads + ") row(1, 0, " + length + ") mend(0, 4, " + worn + ")").law("1");
+        Run r = Run.begin().does("idea(0, 0) road(1, 1) row(0, 0, " + roads + ") row(1, 0, " + length + ") mend(0, 4, " + worn
+            + ")").law("1");
         for (int i = 0; i < length; i++) r.due("put(1, " + i + ", " + (worn + Math.min(i, 20)) + ") 1");
         return r;
     }
@@ -166,13 +174,16 @@ final class HeadsBounds {
         for (int roads : new int[] {0, 1, 2, 19, 20, 21, 60}) {
             int most = Math.min(20, roads) + 1;
             for (int length : new int[] {0, 1, 2, 3, 20, 21, 22, 60}) {
-                told(roads, 7, length).due("judge(1, 0)", length <= most ? -2 : most).due("edge(1, 0, 0)", length <= most ? 15 : 0)
+                told(roads, 7, length).due("judge(1, 0)", length <= most ? -2 : most)
+                    .due("edge(1, 0, 0)", length <= most ? 15 : 0)
                     .due("edge(1, 0, 1)", length <= most ? 63 : 0);
             }
         }
         for (int wrong = 0; wrong <= 20; wrong++) {
-            Run r = told(20, 7, 21).due("judge(1, 0) NOT").due("put(1, " + wrong + ", " + (8 + wrong) + ") 1").due("judge(1, 0)", wrong);
-            r.due("put(1, " + wrong + ", " + (6 + wrong) + ") 1").due("judge(1, 0)", wrong).due("put(1, 20, 0) 1").due("judge(1, 0)", wrong);
+            Run r = told(20, 7, 21).due("judge(1, 0) NOT").due("put(1, " + wrong + ", " + (8 + wrong) + ") 1")
+                .due("judge(1, 0)", wrong);
+            r.due("put(1, " + wrong + ", " + (6 + wrong) + ") 1").due("judge(1, 0)", wrong).due("put(1, 20, 0) 1")
+                .due("judge(1, 0)", wrong);
         }
         // bytes are held against WORN as they are, below 0 too, and keep their lowest bits
         told(1, 0, 2).due("put(1, 0, 256) 1  judge(1, 0) NOT  put(1, 0, -1) 1  judge(1, 0) 0  put(1, 0, 128) 1  judge(1, 0) 0");
@@ -213,7 +224,8 @@ final class HeadsBounds {
         Doc.says("JUDGED. NOT.");
         r.due("judge(45, 0) NOT  judge(45, -1) BAD  judge(45, 1) BAD  judge(45, MAX) BAD  judge(45, MIN) BAD");
         Doc.says("METALS (what 0), SHAPES (1): bits.");
-        r.due("edge(45, 0, MIN) BAD  edge(45, 0, -1) BAD  edge(45, 0, 0) 15  edge(45, 0, 1) 63  edge(45, 0, 2) BAD  edge(45, 0, MAX) BAD");
+        r.due("edge(45, 0, MIN) BAD  edge(45, 0, -1) BAD  edge(45, 0, 0) 15  edge(45, 0, 1) 63  edge(45, 0, 2) BAD  "
+            + "edge(45, 0, MAX) BAD");
     }
 
     private static void metals() {
@@ -225,7 +237,8 @@ final class HeadsBounds {
             }
         }
         Run.begin().does("idea(0, 0) road(1, 1) row(0, 0, 1)").law("m").bytes(1, 0, 4).due("edge(1, 0, 0) 0").bytes(1, 0, 0)
-            .due("edge(1, 0, 0) 1").bytes(1, 0).due("edge(1, 0, 0) 15").bytes(1, 1).due("edge(1, 0, 0) 0").bytes(1).due("edge(1, 0, 0) 15");
+            .due("edge(1, 0, 0) 1").bytes(1, 0).due("edge(1, 0, 0) 15").bytes(1, 1).due("edge(1, 0, 0) 0").bytes(1)
+            .due("edge(1, 0, 0) 15");
     }
 
     private static void shapes() {
@@ -238,12 +251,14 @@ final class HeadsBounds {
             }
         }
         // without a HEAD all SHAPES are as far
-        Run.begin().does("idea(0, 2) road(1, 1) row(0, 0, 1)").law("f").bytes(1, 0, 9).due("edge(1, 0, 1) 63").bytes(1, 0, 5).due("edge(1, 0, 1) 0");
+        Run.begin().does("idea(0, 2) road(1, 1) row(0, 0, 1)").law("f").bytes(1, 0, 9).due("edge(1, 0, 1) 63").bytes(1, 0, 5)
+            .due("edge(1, 0, 1) 0");
     }
 
     private static void turns(int worn, int heat, int n, int want, int first) {
         Run.begin().does("idea(0, 0) mend(0, 4, " + worn + ") mend(0, 5, " + heat + ")").due("byTurns(0, " + n + ", 0)", want)
-            .due("byTurns(0, " + n + ", 1)", first).due("of(0, 4)", worn).due("of(0, 5)", heat).due("of(0, 7) 0  led(0) 0  led(1) 0");
+            .due("byTurns(0, " + n + ", 1)", first).due("of(0, 4)", worn).due("of(0, 5)", heat)
+            .due("of(0, 7) 0  led(0) 0  led(1) 0");
     }
 
     private static void turnsOfSmith() {
@@ -292,7 +307,8 @@ final class HeadsBounds {
     private static void turnsRefused() {
         Doc.says("BY TURNS: smith and kicker, n (1 .. 5) deeds in all, the smith first:");
         Run r = Run.begin().due("byTurns(0, 1, 0) BAD").does("idea(0, 0) mend(0, 4, 50)");
-        r.due("byTurns(0, MIN, 0) BAD  byTurns(0, -1, 0) BAD  byTurns(0, 0, 0) BAD  byTurns(0, 6, 0) BAD  byTurns(0, MAX, 0) BAD");
+        r.due("byTurns(0, MIN, 0) BAD  byTurns(0, -1, 0) BAD  byTurns(0, 0, 0) BAD  byTurns(0, 6, 0) BAD  byTurns(0, MAX, 0) "
+            + "BAD");
         // with no HEAT: nothing; a kick; one NAIL for a kick; and so on
         r.due("byTurns(0, 1, 0) 50  byTurns(0, 2, 0) 57  byTurns(0, 3, 0) 47  byTurns(0, 4, 0) 54");
         r.due("byTurns(0, 5, 0)", new PlainTurns(50, 0).worth(5));

@@ -40,7 +40,8 @@ final class LawBounds {
 
     /** METAL 3, SHAPE 5, WORN 20, HEAT 7 of a HEAD of FORM 1; STEEP 6, KIND 2. */
     private static Run standing() {
-        return Run.begin().does("head(1) idea(3, 5) road(1, 9) mend(0, 4, 20) mend(0, 5, 7) mend(0, 8, 0) mend(0, 10, 6) mend(0, 11, 2)");
+        return Run.begin().does("head(1) idea(3, 5) road(1, 9) mend(0, 4, 20) mend(0, 5, 7) mend(0, 8, 0) mend(0, 10, 6) "
+            + "mend(0, 11, 2)");
     }
 
     private static void gives(String text, int want) {

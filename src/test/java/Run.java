@@ -73,18 +73,22 @@ final class Run {
         calls++;
         if (calls > MOST_CALLS) throw new IllegalStateException("a run of more than " + MOST_CALLS + " calls");
         try {
-            return ((Number) FACE.get(call.substring(0, call.indexOf('('))).invoke(x, with(call))).longValue();
+            return ((Number) method(call).invoke(x, with(call))).longValue();
         } catch (ReflectiveOperationException e) {
             throw new IllegalStateException(call, e);
         }
     }
 
-    private static Object[] with(String call) {
+    static Method method(String call) {
+        return FACE.get(call.substring(0, call.indexOf('(')));
+    }
+
+    static Object[] with(String call) {
         Object[] known = WITH.get(call);
         if (known != null) return known;
         String inside = call.substring(call.indexOf('(') + 1, call.length() - 1).trim();
         String[] told = inside.isEmpty() ? new String[0] : inside.split("\\s*,\\s*");
-        Class<?>[] types = FACE.get(call.substring(0, call.indexOf('('))).getParameterTypes();
+        Class<?>[] types = method(call).getParameterTypes();
         Object[] args = new Object[told.length];
         for (int i = 0; i < told.length; i++) {
             if (types[i] == long.class) args[i] = number(told[i]);

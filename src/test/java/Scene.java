@@ -27,11 +27,14 @@ final class Scene {
     /** Some of each; SHELF 0, 4 bytes, 1 shorts, 2 a SMITH, 3 nothing, 5 longs; changes to undo and to do again. */
     static Scene furnished() {
         List<String> calls = new ArrayList<>();
-        add(calls, "head(1)", "head(4)", "head(2)", "mend(0, 1, 9)", "mend(2, 1, 0)", "idea(0, 2)", "idea(1, 5)", "idea(3, 0)", "idea(2, 4)");
-        add(calls, "road(1, 5)", "road(12, 9)", "road(2, 7)", "road(23, 4)", "mend(1, 10, 7)", "mend(2, 11, 2)", "mend(3, 10, 9)");
+        add(calls, "head(1)", "head(4)", "head(2)", "mend(0, 1, 9)", "mend(2, 1, 0)", "idea(0, 2)", "idea(1, 5)", "idea(3, 0)",
+            "idea(2, 4)");
+        add(calls, "road(1, 5)", "road(12, 9)", "road(2, 7)", "road(23, 4)", "mend(1, 10, 7)", "mend(2, 11, 2)",
+            "mend(3, 10, 9)");
         add(calls, "mend(0, 5, 4)", "mend(0, 4, 30)", "mend(1, 4, 99)", "mend(2, 6, 1)", "mend(2, 7, 1)");
         text(calls, "1+w/40+k");
-        add(calls, "law()", "deal()", "stroke(0, 1)", "stroke(1, 3)", "goes(0, 0)", "image()", "goes(0, 2)", "stroke(0, 0)", "mend(3, 4, 44)");
+        add(calls, "law()", "deal()", "stroke(0, 1)", "stroke(1, 3)", "goes(0, 0)", "image()", "goes(0, 2)", "stroke(0, 0)",
+            "mend(3, 4, 44)");
         add(calls, "mend(3, 4, 55)", "mend(3, 5, 6)", "undo()", "undo()");
         text(calls, "m+k");
         for (int kind = 0; kind < 8; kind++) calls.add("body(" + kind + ")");
@@ -70,6 +73,11 @@ final class Scene {
     private static void row(List<String> calls, int shelf, int sort, long... elements) {
         calls.add("row(" + shelf + ", " + sort + ", " + elements.length + ")");
         for (int i = 0; i < elements.length; i++) calls.add("put(" + shelf + ", " + i + ", " + elements[i] + ")");
+    }
+
+    /** The calls by which it is made. */
+    List<String> calls() {
+        return made;
     }
 
     Run make() {

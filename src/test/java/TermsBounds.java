@@ -101,7 +101,8 @@ final class TermsBounds {
         for (String metal : new String[] {"MIN", "-1", "4", "MAX"}) {
             Run.begin().due("idea(" + metal + ", 0) BAD  idea(" + metal + ", 5) BAD  count(1) 0");
             for (String shape : new String[] {"MIN", "-1", "6", "MAX"}) {
-                Run.begin().due("idea(" + metal + ", " + shape + ") BAD  idea(0, " + shape + ") BAD  idea(3, " + shape + ") BAD  count(1) 0");
+                Run.begin().due("idea(" + metal + ", " + shape + ") BAD  idea(0, " + shape + ") BAD  idea(3, " + shape + ") BAD  "
+                    + "count(1) 0");
             }
         }
         Run.begin().due("idea(0, 0) 0  idea(3, 0) 1  idea(0, 5) 2  idea(3, 5) 3  of(0, 2) 0  of(0, 3) 0  of(1, 2) 3  of(1, 3) 0")
@@ -170,7 +171,8 @@ final class TermsBounds {
             Run.begin().does("idea(0, 0)").due("road(" + ft + ", 1) BAD  way(0, " + ft + ", 0) BAD  count(2) 0");
         }
         Doc.says("(ft: 10 times the PLACE from, and that to, unlike)");
-        Run.begin().due("road(7, 1) 0  road(70, 1) 1  of(0, 12) 0  of(0, 13) 7  of(1, 12) 7  of(1, 13) 0  road(77, 1) BAD  road(0, 1) BAD");
+        Run.begin().due("road(7, 1) 0  road(70, 1) 1  of(0, 12) 0  of(0, 13) 7  of(1, 12) 7  of(1, 13) 0  road(77, 1) BAD  "
+            + "road(0, 1) BAD");
         for (int place = 0; place < 8; place++) {
             Run.begin().does("idea(0, 0)").due("reach(0, " + place + ")", 1 << place).due("reach(0, -1) BAD  reach(0, 8) BAD");
         }
@@ -206,7 +208,8 @@ final class TermsBounds {
         Doc.says("It CLIMBS a ROAD, if STEEP is GRIP or less. To GO a ROAD: if it cannot CLIMB it, it does not go");
         for (int worn = 0; worn < 99; worn++) {
             int grip = 9 - worn / 11;
-            Run r = Run.begin().does("idea(0, 0) road(1, 1) mend(0, 4, " + worn + ") mend(0, 10, " + grip + ")").law("0").bytes(0, 0);
+            Run r = Run.begin().does("idea(0, 0) road(1, 1) mend(0, 4, " + worn + ") mend(0, 10, " + grip
+                + ")").law("0").bytes(0, 0);
             r.due("journey(0, 0, 1) 1  strokes(0, 0, -1) 0  way(0, 1, -2) 1  reach(0, 0) 3  goes(0, 0) 1");
             if (grip == 9) continue;
             r.does("mend(0, 10, " + (grip + 1) + ") mend(0, 7, 1) mend(0, 6, 1)");
@@ -216,7 +219,8 @@ final class TermsBounds {
     }
 
     private static Run onOneRoad(String law, int miles, int worn, int heat) {
-        return Run.begin().does("idea(0, 0) road(1, " + miles + ") mend(0, 4, " + worn + ") mend(0, 5, " + heat + ")").law(law).bytes(0, 0);
+        return Run.begin().does("idea(0, 0) road(1, " + miles + ") mend(0, 4, " + worn + ") mend(0, 5, " + heat
+            + ")").law(law).bytes(0, 0);
     }
 
     /** A journey of one ROAD, in thought and then in deed. */
@@ -358,7 +362,8 @@ final class TermsBounds {
         for (int end : none) {
             for (int place : new int[] {0, 1, 18, 19, 20, 59}) {
                 Run r = Run.begin().does("idea(0, 0) road(1, 1) road(12, 1) row(0, 0, 60)").law("1");
-                r.due("put(0, " + place + ", " + end + ") 1").due("journey(0, 0, 1)", Math.min(20, place)).due("journey(0, 0, 4) NOT");
+                r.due("put(0, " + place + ", " + end + ") 1").due("journey(0, 0, 1)", Math.min(20, place))
+                    .due("journey(0, 0, 4) NOT");
             }
         }
         Run r = Run.begin().does("idea(0, 0)").law("1").bytes(0, 0, 11, 12, 0).due("journey(0, 0, 1) 0  strokes(0, 0, -1) 0");

@@ -32,13 +32,16 @@ final class ThoughtBounds {
         // WORN 27 ahead of the fourth: GRIP 7 does not climb it, and the fifth is not gone then
         r.due("journey(0, 0, 0) 27  journey(0, 0, 1) 3  journey(0, 0, 2) 27  journey(0, 0, 3) 0  journey(0, 0, 4) 3");
         r.does("mend(1, 10, 7)").due("journey(0, 0, 0) 45  journey(0, 0, 1) 5  journey(0, 0, 2) 45  journey(0, 0, 4) NOT");
-        r.does("mend(0, 4, 50)").due("journey(0, 0, 0) 0  journey(0, 0, 1) 0  journey(0, 0, 2) 50  journey(0, 0, 3) 2  journey(0, 0, 4) 0");
+        r.does("mend(0, 4, 50)").due("journey(0, 0, 0) 0  journey(0, 0, 1) 0  journey(0, 0, 2) 50  journey(0, 0, 3) 2  "
+            + "journey(0, 0, 4) 0");
         r.does("mend(1, 10, 0)").due("journey(0, 0, 0) 45  journey(0, 0, 2) 95  journey(0, 0, 4) NOT");
         r.does("mend(0, 4, 54)").due("journey(0, 0, 0) 45  journey(0, 0, 1) 5  journey(0, 0, 2) 99  journey(0, 0, 4) NOT");
         r.does("mend(0, 4, 55)").due("journey(0, 0, 0) 44  journey(0, 0, 1) 4  journey(0, 0, 2) 99  journey(0, 0, 4) 4");
         r.does("mend(0, 4, 63)").due("journey(0, 0, 0) 36  journey(0, 0, 1) 4  journey(0, 0, 2) 99  journey(0, 0, 4) 4");
-        r.does("mend(0, 4, 99)").due("journey(0, 0, 0) 0  journey(0, 0, 1) 0  journey(0, 0, 2) 99  journey(0, 0, 3) 2  journey(0, 0, 4) 0");
-        r.does("row(0, 0, 0)").due("journey(0, 0, 0) 0  journey(0, 0, 1) 0  journey(0, 0, 2) 99  journey(0, 0, 3) 2  journey(0, 0, 4) NOT");
+        r.does("mend(0, 4, 99)").due("journey(0, 0, 0) 0  journey(0, 0, 1) 0  journey(0, 0, 2) 99  journey(0, 0, 3) 2  "
+            + "journey(0, 0, 4) 0");
+        r.does("row(0, 0, 0)").due("journey(0, 0, 0) 0  journey(0, 0, 1) 0  journey(0, 0, 2) 99  journey(0, 0, 3) 2  "
+            + "journey(0, 0, 4) NOT");
         r.due("of(0, 4) 99  of(0, 5) 2  led(3) 0");
     }
 
@@ -58,7 +61,8 @@ final class ThoughtBounds {
         for (int shelf = 0; shelf < 6; shelf++) {
             String at = "(" + shelf + ", 0, ";
             r.due("journey" + at + "0) -11  strokes" + at + "-1) -11  strokes" + at + "0) -11  strokes" + at + "MAX) -11");
-            r.due("journey" + at + "5) BAD  journey" + at + "-1) BAD  strokes" + at + "-2) BAD  journey(" + shelf + ", 1, 0) BAD");
+            r.due("journey" + at + "5) BAD  journey" + at + "-1) BAD  strokes" + at + "-2) BAD  journey(" + shelf + ", 1, 0) "
+                + "BAD");
             r.does("keep(" + shelf + ", 0)").due("journey" + at + "0) -12  strokes" + at + "-1) -12  strokes" + at + "4) -12");
             for (int sort = 1; sort <= 4; sort++) {
                 r.does("row(" + shelf + ", " + sort + ", 1)").due("journey" + at + "4) -12  strokes" + at + "0) -12");
@@ -138,19 +142,24 @@ final class ThoughtBounds {
         strokesAre(both.does("mend(0, 3, 4)"), 2);
         strokesAre(both.does("mend(0, 3, 0)"), 1);
         // HEAT where it is not needed first: three STROKES, the least of them begins with 0
-        strokesAre(Run.begin().does("head(5) idea(0, 3) mend(0, 8, 0) road(1, 9) row(0, 0, 1) mend(0, 5, 2) mend(0, 4, 98)").law("f?9;0"),
+        strokesAre(Run.begin().does("head(5) idea(0, 3) mend(0, 8, 0) road(1, 9) row(0, 0, 1) mend(0, 5, 2) "
+            + "mend(0, 4, 98)").law("f?9;0"),
             0, 1, 1);
-        strokesAre(Run.begin().does("head(5) idea(0, 3) mend(0, 8, 0) road(1, 9) row(0, 0, 1) mend(0, 5, 4) mend(0, 4, 99)").law("f?9;0"),
+        strokesAre(Run.begin().does("head(5) idea(0, 3) mend(0, 8, 0) road(1, 9) row(0, 0, 1) mend(0, 5, 4) "
+            + "mend(0, 4, 99)").law("f?9;0"),
             0, 1, 1, 3);
         // SHAPE 5 has none more, SHAPE 0 none less
-        noStrokes(Run.begin().does("head(0) idea(0, 5) mend(0, 8, 0) road(1, 9) row(0, 0, 1) mend(0, 5, 9) mend(0, 4, 98)").law("f?9;0"));
-        strokesAre(Run.begin().does("head(0) idea(0, 4) mend(0, 8, 0) road(1, 9) row(0, 0, 1) mend(0, 5, 8) mend(0, 4, 98)").law("f?9;0"),
+        noStrokes(Run.begin().does("head(0) idea(0, 5) mend(0, 8, 0) road(1, 9) row(0, 0, 1) mend(0, 5, 9) "
+            + "mend(0, 4, 98)").law("f?9;0"));
+        strokesAre(Run.begin().does("head(0) idea(0, 4) mend(0, 8, 0) road(1, 9) row(0, 0, 1) mend(0, 5, 8) "
+            + "mend(0, 4, 98)").law("f?9;0"),
             2, 2, 2, 2);
     }
 
     private static void whichStroke() {
         Doc.says("STROKES FOR it: how many (k -1), the k-th (NOT: there are not as many). NOT.");
-        worn(92, 2, 2).due("strokes(0, 0, MIN) BAD  strokes(0, 0, -2) BAD  strokes(0, 0, -1) 2  strokes(0, 0, 0) 3  strokes(0, 0, 1) 3")
+        worn(92, 2, 2).due("strokes(0, 0, MIN) BAD  strokes(0, 0, -2) BAD  strokes(0, 0, -1) 2  strokes(0, 0, 0) 3  "
+            + "strokes(0, 0, 1) 3")
             .due("strokes(0, 0, 2) NOT  strokes(0, 0, 3) NOT  strokes(0, 0, MAX) NOT");
         worn(0, 0, 1).due("strokes(0, 0, -1) 0  strokes(0, 0, 0) NOT");
     }
@@ -237,9 +246,11 @@ final class ThoughtBounds {
     private static void whichRoad() {
         Doc.says("LEAST WORN: WORN (k -1), how many ROADS (-2), the k-th (NOT: there are not as many). BAD; NOT.");
         Run r = oneAMile().does("road(1, 1) road(12, 1)");
-        r.due("way(0, 2, MIN) BAD  way(0, 2, -3) BAD  way(0, 2, -2) 2  way(0, 2, -1) 2  way(0, 2, 0) 0  way(0, 2, 1) 1  way(0, 2, 2) NOT");
+        r.due("way(0, 2, MIN) BAD  way(0, 2, -3) BAD  way(0, 2, -2) 2  way(0, 2, -1) 2  way(0, 2, 0) 0  way(0, 2, 1) 1  "
+            + "way(0, 2, 2) NOT");
         // no way, and k, IDEA or PLACES not as said: BAD is named first
-        r.due("way(0, 3, -3) BAD  way(1, 3, -1) BAD  way(-1, 3, -1) BAD  way(0, 33, -1) BAD  way(0, 3, -1) NOT  way(0, 3, 0) NOT");
+        r.due("way(0, 3, -3) BAD  way(1, 3, -1) BAD  way(-1, 3, -1) BAD  way(0, 33, -1) BAD  way(0, 3, -1) NOT  way(0, 3, 0) "
+            + "NOT");
     }
 
     private static void longestWay() {
@@ -265,6 +276,8 @@ final class ThoughtBounds {
         // 63 miles are more than WORN 98 can go; a LAME one CLIMBS what is not steep
         r.does("mend(0, 4, 98)").due("reach(0, 0) 255  reach(0, 7) 255").does("mend(0, 4, 99)").due("reach(0, 0) 255");
         r.does("mend(3, 10, 1)").due("reach(0, 0) 15  reach(0, 3) 15  reach(0, 4) 240  reach(0, 7) 240");
+        // twelve ROADS, the last of them needed
+        r.does("road(12, 9) road(56, 9) road(56, 9) road(56, 9)").due("reach(0, 0) 15").does("road(34, 1)").due("reach(0, 0) 255");
         Doc.says("REACH: bits. BAD.");
         r.due("reach(1, 0) BAD  reach(-1, 0) BAD  reach(1, 8) BAD  reach(MIN, 0) BAD  reach(MAX, 0) BAD");
     }
