@@ -154,6 +154,12 @@ final class DeedsBounds {
         for (int d = 0; d < 8; d++) r.does("idea(0, " + d % 6 + ") mend(" + d + ", 8, 1)");
         r.due("deal() 2  of(0, 8) 0  of(1, 8) 1");
         for (int d = 2; d < 8; d++) r.due("of(" + d + ", 8) -1");
+        // whoever of the IDEAS nobody has, it had one before
+        for (int none = 0; none < 8; none++) {
+            r = Run.begin().does("head(0) head(0) head(0) head(0) head(0) head(0)");
+            for (int d = 0; d < 8; d++) r.does("idea(0, " + (d == none || d == (none + 1) % 8 ? 5 : 0) + ") mend(" + d + ", 8, 5)");
+            r.due("deal() 6").due("of(" + none + ", 8) -1").due("of(" + (none + 1) % 8 + ", 8) -1").due("settled() 1");
+        }
         r = Run.begin();
         for (int h = 0; h < 6; h++) r.does("head(0)");
         for (int d = 0; d < 5; d++) r.does("idea(0, 0)");
@@ -251,6 +257,13 @@ final class DeedsBounds {
             for (int i = 1; i <= kept; i++) r.due("redo()", kept - i).due("of(0, 4)", changes - kept + i);
             r.due("redo() STATE").due("count(4)", kept);
         }
+        // of many numbers, so that each is laid back where it was
+        Run many = Run.begin();
+        for (int d = 0; d < 8; d++) many.does("idea(0, 0)");
+        for (int i = 0; i < 43; i++) many.does("mend(" + i % 8 + ", " + (i % 2 == 0 ? 4 : 7) + ", " + (1 + i / 8) + ")");
+        for (int i = 42; i >= 3; i--) many.due("undo()", i - 3).due("of(" + i % 8 + ", " + (i % 2 == 0 ? 4 : 7) + ")", i / 8);
+        many.due("undo() STATE  of(0, 4) 1  of(1, 7) 1  of(2, 4) 1  of(3, 7) 0");
+        for (int i = 3; i < 43; i++) many.due("redo()", 42 - i).due("of(" + i % 8 + ", " + (i % 2 == 0 ? 4 : 7) + ")", 1 + i / 8);
         // kept to the full, undone by one: another takes its place, and one more the first one's
         Run r = Run.begin().does("idea(0, 0)");
         for (int i = 1; i <= 40; i++) r.does("mend(0, 4, " + i + ")");

@@ -18,6 +18,7 @@ final class HeadsBounds {
         judgedLengths();
         judgedAsFarAsGone();
         judgedRefused();
+        judgedShelves();
         metals();
         shapes();
         turnsOfSmith();
@@ -226,6 +227,30 @@ final class HeadsBounds {
         Doc.says("METALS (what 0), SHAPES (1): bits.");
         r.due("edge(45, 0, MIN) BAD  edge(45, 0, -1) BAD  edge(45, 0, 0) 15  edge(45, 0, 1) 63  edge(45, 0, 2) BAD  "
             + "edge(45, 0, MAX) BAD");
+    }
+
+    /** Each SHELF s has a JOURNEY of so many ROADS, which as WORN tells 0, 1, 2 ..; once they grow, once they shrink. */
+    private static void judgedShelves() {
+        Doc.says("(ss: 10 times the SHELF of the JOURNEY, and that of WORN: BAD, -11, -12; the JOURNEY first)");
+        for (boolean grow : new boolean[] {true, false}) {
+            Run r = Run.begin().does("idea(0, 0)").law("1");
+            for (int road = 0; road < 6; road++) r.does("road(1, 1)");
+            int[] lengths = new int[6];
+            for (int shelf = 0; shelf < 6; shelf++) {
+                lengths[shelf] = grow ? shelf + 1 : 6 - shelf;
+                int[] row = new int[lengths[shelf]];
+                for (int i = 0; i < row.length; i++) row[i] = i;
+                r.bytes(shelf, row);
+            }
+            for (int journey = 0; journey < 6; journey++) {
+                for (int worn = 0; worn < 6; worn++) {
+                    boolean so = lengths[worn] <= lengths[journey] + 1;
+                    String with = "(" + (10 * journey + worn) + ", 0";
+                    r.due("judge" + with + ")", so ? -2 : lengths[journey] + 1);
+                    r.due("edge" + with + ", 0)", so ? 15 : 0).due("edge" + with + ", 1)", so ? 63 : 0);
+                }
+            }
+        }
     }
 
     private static void metals() {

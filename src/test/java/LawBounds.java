@@ -258,6 +258,7 @@ final class LawBounds {
                 r.does("mend(0, 8, -1)").due("wears(0, 0) 9");
             }
         }
+        Run.begin().does("idea(0, 0) road(1, 1)").law("f=9?5;f-1").due("wears(0, 0) 5").does("idea(0, 5)").due("wears(1, 0) 5");
         for (char letter = 'a'; letter <= 'z'; letter++) fault("" + letter, "mwhfsk".indexOf(letter) >= 0 ? NONE : 0);
         for (char letter = 'A'; letter <= 'Z'; letter++) fault("" + letter, 0);
     }

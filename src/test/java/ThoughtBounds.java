@@ -10,6 +10,7 @@ final class ThoughtBounds {
         fewestStrokes();
         strokesNot();
         strokesOfLikeNumber();
+        strokesAtTheEnds();
         whichStroke();
         leastWorn();
         noPlaceTwice();
@@ -154,6 +155,25 @@ final class ThoughtBounds {
         strokesAre(Run.begin().does("head(0) idea(0, 4) mend(0, 8, 0) road(1, 9) row(0, 0, 1) mend(0, 5, 8) "
             + "mend(0, 4, 98)").law("f?9;0"),
             2, 2, 2, 2);
+    }
+
+    /** Where SHAPE, WORN, HEAT and HEATED are as little or as much as they can be. */
+    private static void strokesAtTheEnds() {
+        Doc.says("STROKES FOR a JOURNEY: the fewest STROKES (0 .. 4) ahead of it by which all its ROADS are gone to the end:");
+        for (int shape = 0; shape <= 5; shape++) {
+            for (int heat : new int[] {0, 9}) {
+                for (int heated : new int[] {0, 9}) {
+                    String told = "head(" + shape + ") idea(0, " + shape + ") mend(0, 8, 0) road(1, 9) row(0, 0, 2) mend(0, 5, " + heat
+                        + ") mend(0, 7, " + heated + ")";
+                    // it wears nothing while SHAPE is FORM
+                    Run r = Run.begin().does(told).law("f?9;0");
+                    strokesAre(r);
+                    r.does("mend(0, 4, 99)");
+                    if (heat == 9) strokesAre(r, 3);
+                    else strokesAre(r, 0, 3);
+                }
+            }
+        }
     }
 
     private static void whichStroke() {
