@@ -127,6 +127,12 @@ final class ThoughtBounds {
         noStrokes(worn(99, 0, 3).does("mend(0, 6, 1) mend(0, 7, 1)"));
         noStrokes(worn(91, 0, 1).does("mend(0, 6, 1) mend(0, 7, 9)"));
         strokesAre(worn(91, 1, 1).does("mend(0, 6, 1) mend(0, 7, 9)"), 3);
+        // .. in thought, too: two DRAWS want HEAT 4, so HEAT twice, or once if it has one
+        String drawn = "head(5) idea(0, 3) mend(0, 8, 0) road(1, 9) row(0, 0, 1) mend(0, 4, 98)";
+        strokesAre(Run.begin().does(drawn).law("f?9;0"), 0, 0, 1, 1);
+        noStrokes(Run.begin().does(drawn + " mend(0, 6, 1)").law("f?9;0"));
+        strokesAre(Run.begin().does(drawn + " mend(0, 6, 1) mend(0, 5, 1)").law("f?9;0"), 0, 1, 1);
+        noStrokes(Run.begin().does(drawn + " mend(0, 6, 1) mend(0, 5, 1) mend(0, 7, 1)").law("f?9;0"));
         // STEEP 9 wants WORN 10 or less
         strokesAre(worn(50, 4, 1).does("mend(0, 10, 9)"), 3, 3, 3, 3);
         noStrokes(worn(51, 9, 1).does("mend(0, 10, 9)"));
