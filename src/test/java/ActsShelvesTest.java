@@ -105,6 +105,7 @@ public final class ActsShelvesTest {
         Due.due("BAD ahead of -14", x.row(0, 5, -1), -1);
         Due.due("nothing is there still", x.put(0, 0, 1), -11);
         for (int sort = 0; sort <= 4; sort++) {
+            x = new ColdShod();
             Due.due("row of 60", x.row(0, sort, 60), 1);
             for (int i = 0; i < 60; i++) Due.due("0 at first", x.element(0, i), 0);
             for (int i = 0; i < 60; i++) x.put(0, i, 1);

@@ -1,4 +1,4 @@
-/** Each sentence of the document that names a bound, an edge or a refusal, by its own words. */
+/** Each sentence of the document by its own words: those that name a bound, an edge or a refusal, and the plain ones. */
 public final class BoundsTest {
     public static void main(String[] args) {
         TermsBounds.all();
@@ -8,6 +8,7 @@ public final class BoundsTest {
         DeedsBounds.all();
         ShelvesBounds.all();
         AnswersBounds.all();
+        PlainSentences.all();
         Doc.allSaid();
         Due.end();
     }

@@ -24,7 +24,6 @@ final class DeedsBounds {
         deedsAreNone();
         mendsRefused();
         ofRefused();
-        fiveHundredTwelve();
     }
 
     private static void livesAndRoads() {
@@ -332,12 +331,5 @@ final class DeedsBounds {
         // ROADS alone: 9 to 13 are of them, 14 is not
         Run.begin().does("road(1, 1) road(23, 2)").due("of(1, 9) 2  of(1, 12) 2  of(1, 13) 3  of(1, 14) VOID  of(0, 14) VOID  "
             + "of(2, 13) VOID");
-    }
-
-    private static void fiveHundredTwelve() {
-        Doc.says("An object is used for at most 512 calls after it has been made;");
-        Run r = Run.begin().does("idea(0, 0) road(1, 9)");
-        for (int i = 0; i < 508; i++) r.due("stroke(0, 3) 0");
-        r.due("led(1) 508  goes(0, 0) 9");
     }
 }

@@ -4,14 +4,14 @@ import java.nio.file.Path;
 import java.util.regex.Matcher;
 import java.util.regex.Pattern;
 
-/** The document's own words: which of them are tested now, and whether all that name a bound were. */
+/** The document's own words: which of them are tested now, and whether all of them were. */
 final class Doc {
-    /** Words by which the document names a bound, an edge or a refusal. */
-    private static final Pattern BOUNDS = Pattern.compile("-?\\d+ \\.\\. \\d+|at most|at least|at first|too early|stays"
-        + "|\\b(BAD|FULL|STATE|NOT|VOID|FAULT)\\b|-1[1-4]\\b|\\b[Nn]one\\b|[Ww]ithout|\\bwraps?\\b|by 0|no more|nothing|missing"
-        + "|lowest bits|toward 0|\\(cut\\)|of like ones|the first 24|no such|512|above 60|below 0|nobody|how many|unlike");
+    private static final Pattern WORDS = Pattern.compile("[\\w-]+");
+    /** What only names what comes behind it: titles, signatures, which calls a row stands ahead of. */
+    private static final Pattern TITLES = Pattern.compile("## (?:Terms|Promise \\d+: [\\w ]+?(?= `))|`(?:int|long|ColdShod)\\b[^`]*`:"
+        + "|======== \\d\\b|Ahead of the calls [^:]*: ----");
     private static final Path FILE = Path.of("../shared/DOC.md");
-    /** Empty where there is no document: then the bounds are tested all the same, and its words are not looked at. */
+    /** Empty where there is no document: then the class is tested all the same, and its words are not looked at. */
     private static final String TEXT = Files.exists(FILE) ? read() : "";
     private static final boolean[] SAID = new boolean[TEXT.length()];
     private static String latest = "";
@@ -42,20 +42,25 @@ final class Doc {
         return latest;
     }
 
-    /** Every bound that the document names stands in a sentence that was tested. */
+    /** Every word that promises something stands in a sentence that was tested. */
     static void allSaid() {
         if (TEXT.isEmpty()) System.out.println("no " + FILE + ": its words were not looked at");
         if (TEXT.isEmpty()) return;
         int from = TEXT.indexOf("An object is used"), face = TEXT.indexOf("## The public face");
         int terms = TEXT.indexOf("## Terms"), end = TEXT.indexOf("## Not promised");
         Due.holds("the document has its parts", 0 < from && from < face && face < terms && terms < end);
-        Matcher bound = BOUNDS.matcher(TEXT);
-        while (bound.find()) {
-            boolean inFace = bound.start() >= face && bound.start() < terms;
-            if (bound.start() < from || bound.start() >= end || inFace) continue;
-            String around = TEXT.substring(Math.max(0, bound.start() - 40), Math.min(TEXT.length(), bound.end() + 40));
-            Due.holds("a sentence that is tested has '" + bound.group() + "' in: .." + around + "..",
-                SAID[bound.start()] && SAID[bound.end() - 1]);
+        Matcher title = TITLES.matcher(TEXT);
+        while (title.find()) java.util.Arrays.fill(SAID, title.start(), title.end(), true);
+        allSaid(from, face);
+        allSaid(terms, end);
+    }
+
+    private static void allSaid(int from, int end) {
+        Matcher word = WORDS.matcher(TEXT).region(from, end);
+        while (word.find()) {
+            String around = TEXT.substring(Math.max(0, word.start() - 40), Math.min(TEXT.length(), word.end() + 40));
+            Due.holds("a sentence that is tested has '" + word.group() + "' in: .." + around + "..",
+                SAID[word.start()] && SAID[word.end() - 1]);
         }
     }
 }

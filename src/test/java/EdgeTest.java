@@ -201,15 +201,15 @@ public final class EdgeTest {
 
     /** The draws worked out here once more, with a law of 1 a mile and ROADS that none can climb. */
     private static void drawnByHand() {
-        ColdShod x = new ColdShod();
-        x.head(0);
-        x.idea(0, 0);
-        x.road(1, 2);
-        x.road(12, 5);
-        x.road(23, 9);
-        x.mend(2, 10, 9);
-        Due.lawOf(x, "1");
         for (int seed = -3; seed < 40; seed++) {
+            ColdShod x = new ColdShod();
+            x.head(0);
+            x.idea(0, 0);
+            x.road(1, 2);
+            x.road(12, 5);
+            x.road(23, 9);
+            x.mend(2, 10, 9);
+            Due.lawOf(x, "1");
             for (int will = -1; will <= 12; will++) {
                 x.mend(0, 8, will < 0 ? -1 : 0);
                 if (will >= 0) x.mend(0, 1, will);

@@ -28,7 +28,7 @@ final class HeadsBounds {
     }
 
     private static void nearerShapes() {
-        Doc.says("a HEAD would rather have the IDEA whose SHAPE is nearer to its FORM"
+        Doc.says("HEADS for IDEAS: a HEAD would rather have the IDEA whose SHAPE is nearer to its FORM"
             + " (of like ones the less WORN, then the lesser number)");
         for (int form = 0; form <= 5; form++) {
             for (int one = 0; one <= 5; one++) {

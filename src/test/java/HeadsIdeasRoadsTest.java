@@ -217,6 +217,7 @@ public final class HeadsIdeasRoadsTest {
         Due.due("wears(0, -1)", x.wears(0, -1), -1);
         Due.due("wears(0, 1)", x.wears(0, 1), -1);
         for (int metal = 0; metal < 4; metal++) {
+            x = oneOfEach();
             for (int kind = 0; kind < 3; kind++) {
                 for (int shape = 0; shape < 6; shape++) {
                     x.mend(0, 2, metal);

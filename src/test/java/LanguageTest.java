@@ -28,6 +28,7 @@ public final class LanguageTest {
 
     public static void main(String[] args) throws Exception {
         face();
+        faceOfDocument();
         names();
         text();
         room();
@@ -55,6 +56,18 @@ public final class LanguageTest {
         Constructor<?>[] made = ColdShod.class.getDeclaredConstructors();
         Due.holds("one public constructor", made.length == 1 && Modifier.isPublic(made[0].getModifiers())
             && made[0].getParameterCount() == 0);
+    }
+
+    /** The face above is the one that the document tells, word for word. */
+    private static void faceOfDocument() throws IOException {
+        Path document = Path.of("../shared/DOC.md");
+        if (!Files.exists(document)) return;
+        Set<String> told = new TreeSet<>();
+        Matcher method = Pattern.compile("public (int|long) (\\w+)\\(([^)]*)\\);").matcher(Files.readString(document));
+        while (method.find()) {
+            told.add(method.group(1) + " " + method.group(2) + "(" + method.group(3).replaceAll(" \\w+(,?) ?", "$1") + ")");
+        }
+        Due.holds("the document's face: " + told, told.equals(new TreeSet<>(Arrays.asList(FACE))));
     }
 
     private static void names() {
@@ -110,6 +123,9 @@ public final class LanguageTest {
                 indent = opens.group(1);
             } else if (begun >= 0 && lines[i].equals(indent + "}")) {
                 Due.holds("short: " + lines[begun].trim(), i - begun < 60);
+                boolean constructs = lines[begun].trim().matches("(public )?[A-Z]\\w*\\(\\) \\{");
+                boolean makes = String.join(" ", Arrays.copyOfRange(lines, begun, i)).matches(".*\\bnew\\b.*");
+                Due.holds("makes no object: " + lines[begun].trim(), constructs || !makes);
                 begun = -1;
             }
         }

@@ -4,7 +4,9 @@ import java.util.Random;
 
 /** All promises: random runs of calls, the class beside the plain model. */
 public final class ModelTest {
-    private static final int RUNS = 1200, CALLS = 512;
+    private static final int RUNS = 1600, CALLS = 512, LOOKS = 90, KINDS = 48, KEPT = KINDS + 4, STANDING = 8;
+    /** The kinds of steps that call() knows. */
+    private static final int[] ALL = new int[KINDS];
     private static final int[] EDGES = {Integer.MIN_VALUE, Integer.MIN_VALUE + 1, -101, -100, -11, -10, -3, -2, -1, 0, 1, 2,
         5, 6, 7, 8, 9, 10, 12, 13, 14, 15, 40, 49, 50, 55, 60, 61, 99, 100, 101, 140, 255, 256, 3040, 3101,
         Integer.MAX_VALUE - 1, Integer.MAX_VALUE};
@@ -15,6 +17,7 @@ public final class ModelTest {
     private final ColdShod x = new ColdShod();
     private final PlainModel model = new PlainModel();
     private final List<String> calls = new ArrayList<>();
+    private final boolean[] made = new boolean[KINDS];
     private long got;
     private long want;
 
@@ -23,6 +26,7 @@ public final class ModelTest {
     }
 
     public static void main(String[] args) {
+        for (int which = 0; which < KINDS; which++) ALL[which] = which;
         int wrongRuns = 0;
         for (int run = 0; run < RUNS && wrongRuns < 5; run++) {
             if (!new ModelTest(run).isSame(run)) wrongRuns++;
@@ -32,18 +36,64 @@ public final class ModelTest {
         Due.end();
     }
 
+    /** A run of CALLS calls in all: of all kinds, or for a while of some kinds alone; at the end all that came of it is looked at. */
     private boolean isSame(int run) {
         if (run % 3 != 0) furnish();
-        for (int i = calls.size(); i < CALLS; i++) {
+        int[] some = ALL;
+        for (int step = 0; calls.size() < CALLS - LOOKS; step++) {
+            if (run % 2 == 1 && step % 40 == 0) some = someKinds();
             boolean wild = random.nextInt(run % 5 == 0 ? 8 : 40) == 0;
-            call(random.nextInt(48), wild);
-            Due.due("run " + run + ": " + calls.get(calls.size() - 1), got, want);
-            if (got != want) {
-                System.out.println(calls);
-                return false;
-            }
+            if (!isSame(run, some[random.nextInt(some.length)], wild)) return false;
         }
+        for (int which : ALL) {
+            if (!made[which] && !isSame(run, which, false)) return false;
+        }
+        return looksSame(run);
+    }
+
+    private boolean isSame(int run, int which, boolean wild) {
+        made[which] = true;
+        call(which, wild);
+        return tellSame(run);
+    }
+
+    private boolean tellSame(int run) {
+        Due.due("run " + run + ": " + calls.get(calls.size() - 1), got, want);
+        if (got != want) System.out.println(calls);
+        return got == want;
+    }
+
+    private int[] someKinds() {
+        int[] some = new int[3 + random.nextInt(8)];
+        for (int i = 0; i < some.length; i++) some[i] = random.nextInt(KINDS);
+        return some;
+    }
+
+    private boolean looksSame(int run) {
+        for (int i = 0; calls.size() < CALLS; i++) {
+            look(i);
+            if (!tellSame(run)) return false;
+        }
+        Due.due("calls of run " + run, calls.size(), CALLS);
         return true;
+    }
+
+    /** What was led and counted, then the numbers of IDEAS, then SHELVES. */
+    private void look(int i) {
+        int a = i - 12, b = i - 68;
+        if (i < 5) {
+            note("led", i);
+            answer(x.led(i), model.led(i));
+        } else if (i < 12) {
+            note("count", i - 5);
+            answer(x.count(i - 5), model.count(i - 5));
+        } else if (i < 68) {
+            note("of", a / 7, 2 + a % 7);
+            answer(x.of(a / 7, 2 + a % 7), model.of(a / 7, 2 + a % 7));
+        } else {
+            note("element", b % 6, b / 6);
+            answer(x.element(b % 6, b / 6), model.element(b % 6, b / 6));
+        }
     }
 
     /** So that there is something to work on from the first. */
@@ -179,6 +229,7 @@ public final class ModelTest {
     private void tellWorn(int ss, int idea) {
         byte[] journey = (byte[]) model.shelves[ss / 10];
         int n = random.nextInt(journey.length + 2);
+        if (calls.size() + n > CALLS - KEPT) return;
         x.row(ss % 10, 0, n);
         model.row(ss % 10, 0, n);
         note("row", ss % 10, 0, n);
@@ -233,6 +284,7 @@ public final class ModelTest {
 
     private void text() {
         String text = random.nextInt(3) > 0 ? LAWS[random.nextInt(LAWS.length)] : RandomLaw.text(random);
+        text = text.substring(0, Math.max(0, Math.min(text.length(), CALLS - KEPT - calls.size())));
         for (int i = 0; i < text.length(); i++) {
             note("feed", text.charAt(i));
             x.feed(text.charAt(i));
@@ -244,9 +296,15 @@ public final class ModelTest {
     private static void laws() {
         Random random = new Random(77);
         ColdShod x = standing();
+        int made = STANDING;
         for (int i = 0; i < 60000; i++) {
             String text = RandomLaw.text(random);
             int fault = PlainLaw.fault(text);
+            if (made + text.length() + 2 > CALLS) {
+                x = standing();
+                made = STANDING;
+            }
+            made += text.length() + 2;
             Due.due("law of " + text, Due.lawOf(x, text), fault < 0 ? 1 : -100 - fault);
             if (fault >= 0) continue;
             int worth = PlainLaw.worth(text, 3, 20, 7, 4, 6, 2);
@@ -254,6 +312,7 @@ public final class ModelTest {
         }
     }
 
+    /** Made by STANDING calls. */
     private static ColdShod standing() {
         ColdShod x = new ColdShod();
         x.head(1);

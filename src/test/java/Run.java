@@ -69,6 +69,11 @@ final class Run {
         return this;
     }
 
+    /** How many calls may still be made. */
+    int left() {
+        return MOST_CALLS - calls;
+    }
+
     long ask(String call) {
         calls++;
         if (calls > MOST_CALLS) throw new IllegalStateException("a run of more than " + MOST_CALLS + " calls");

@@ -280,7 +280,7 @@ final class TermsBounds {
     }
 
     private static void heats() {
-        Doc.says("0 HEAT: HEAT 3 more (9 at most), HEATED one more (9 stays)");
+        Doc.says("STROKES: 0 HEAT: HEAT 3 more (9 at most), HEATED one more (9 stays)");
         int[] behind = {3, 4, 5, 6, 7, 8, 9, 9, 9, 9};
         for (int heat = 0; heat <= 9; heat++) {
             Run r = ideaOf(2, 7, heat, 0, 0).due("stroke(0, 0) 1");
